@@ -171,6 +171,8 @@ public final class PromiseTest {
         due("SKILL is", x.of(1, 10), 9);
         due("RULE", x.mend(0, 2, 2), 0);
         due("RULE is", x.of(0, 50), 2);
+        due("RULE to 0", x.mend(0, 2, 0), 2);
+        due("RULE to 1", x.mend(0, 2, 1), 0);
         due("ILL", x.mend(0, 3, 12), 1);
         due("ILL to 0", x.mend(0, 3, 0), 12);
         due("ILL is", x.of(0, 51), 0);
@@ -180,7 +182,7 @@ public final class PromiseTest {
         for (int[] b : bad) {
             due("mend(" + b[0] + ", " + b[1] + ", " + b[2] + ")", x.mend(b[0], b[1], b[2]), BAD);
         }
-        due("changes", x.count(6), 6);
+        due("changes", x.count(6), 8);
     }
 
     private static void promise6() {
@@ -211,6 +213,19 @@ public final class PromiseTest {
         due("GOT", x.of(1, 13), 20);
         due("done", x.of(0, 42), 1);
         due("a half is kept", x.of(1, 4), 1);
+        OwedDays y = withPeople(1, 1, 1, 1, 1, 1, 1, 1);
+        for (int d = 0; d < 20; d++) {
+            y.debt(10 * (7 - d / 5) + d % 5 % 4, 100 * (d % 9 + 1));
+        }
+        for (int p = 0; p < 8; p++) {
+            for (int q = 0; q < 8; q++) {
+                int sum = 0;
+                for (int d = 0; d < 20; d++) {
+                    sum += y.of(d, 0) == p && y.of(d, 1) == q ? y.of(d, 2) : 0;
+                }
+                due("OWED of " + p + " to " + q, y.of(10 * p + q, 30), p == q ? VOID : sum);
+            }
+        }
         int[][] none = {{4, 0}, {-1, 0}, {4, 4}, {0, 5}, {0, -1}, {3, 10}, {-1, 11}, {3, 13}, {0, 14}, {0, 9},
             {12, 20}, {-1, 20}, {0, 19}, {0, 21}, {0, 30}, {11, 30}, {3, 30}, {-1, 30}, {100, 30}, {1, 31},
             {1, 40}, {-1, 41}, {1, 42}, {0, 43}, {0, 39}, {1, 50}, {-1, 50}, {1, 51}, {0, 52}, {0, 49}};
@@ -264,6 +279,8 @@ public final class PromiseTest {
         fault("d1", 1);
         fault("(d)1", 3);
         fault("(d)d", 3);
+        fault("(1)1", 3);
+        fault("1|2?3", -1);
         fault("d!", 1);
         fault("d(", 1);
         fault("d +1", 1);
@@ -308,6 +325,15 @@ public final class PromiseTest {
         due("the law stays", x.worth(1, 0), 58);
         due("tape is empty", x.count(5), 0);
         due("empty tape", x.law(), -100);
+        due("brackets open", lawOf(x, "((((!-"), -106);
+        due("all six may be open again", lawOf(x, "((((!-d))))"), 1);
+        due("brackets open", lawOf(x, "(d"), -102);
+        due("no bracket to end", lawOf(x, "d)"), -101);
+        due("a condition behind", lawOf(x, "d?"), -102);
+        due("another may come", lawOf(x, "d?m"), 1);
+        due("a + open", lawOf(x, "d+1+"), -104);
+        due("and gone", lawOf(x, "7"), 1);
+        due("worth by it", x.worth(1, 9), 7);
     }
 
     private static void promise9() {
@@ -317,6 +343,18 @@ public final class PromiseTest {
         due("l times s", x.worth(10, 24), 45);
         due("HOLY", x.worth(1, 23), 21);
         due("DAY 47", x.worth(1, 47), 15);
+        OwedDays y = withPeople(1, 2, 3, 4, 5, 6, 7, 8);
+        for (int p = 0; p < 8; p++) {
+            for (int q = 0; q < 8; q++) {
+                due("of " + p + " for " + q, y.worth(10 * p + q, 8), p == q ? BAD : 5 * p + 5);
+            }
+        }
+        lawOf(y, "8*p+q");
+        for (int p = 0; p < 8; p++) {
+            for (int q = 0; q < 8; q++) {
+                due("by a law, of " + p + " for " + q, y.worth(10 * p + q, 8), p == q ? BAD : 8 * p + q);
+            }
+        }
         due("DAY 48", x.worth(1, 48), BAD);
         due("DAY -1", x.worth(1, -1), BAD);
         due("one and the same", x.worth(11, 0), BAD);
@@ -357,6 +395,12 @@ public final class PromiseTest {
         value("2<1", 0);
         value("2<2", 0);
         value("2>1", 1);
+        value("2>2", 0);
+        value("(1|0)+5", 6);
+        value("(1&1)+5", 6);
+        value("0|1?7;8", 7);
+        value("0|0?7;8", 8);
+        value("0;1?7", 0);
         value("1>2", 0);
         value("2=2", 1);
         value("2=1", 0);
@@ -592,6 +636,20 @@ public final class PromiseTest {
         due("who came later", x.led(42, 0), NOT);
         x.heir(12);
         due("as it was", x.led(40, 0), 1);
+        OwedDays all = withPeople(1, 1, 1, 1, 1, 1, 1, 1);
+        all.mend(0, 3, 0);
+        for (int p = 0; p < 8; p++) {
+            all.debt(10 * p + (p + 3) % 8, 912);
+            all.ask(p, 4);
+            all.ask(p, p % 2 == 0 ? 5 : 6);
+        }
+        all.go(1, 7);
+        for (int dp = 0; dp < 70; dp++) {
+            int p = dp % 10;
+            boolean works = dp / 10 == 4 || dp / 10 == 5 + p % 2;
+            due("whom, led(" + dp + ")", all.led(dp, 0), p > 7 ? BAD : works ? (p + 3) % 8 : NOT);
+            due("which, led(" + dp + ")", all.led(dp, 1), p > 7 ? BAD : works ? p : NOT);
+        }
         x.go(1, 43);
         due("DAY 47", x.led(471, 0), NOT);
         due("DAY 48", x.led(480, 0), BAD);
@@ -675,6 +733,10 @@ public final class PromiseTest {
         }
         lawOf(y, "99");
         due("more OWED than DAYS", y.plan(1, 47), 33 * 99);
+        lawOf(y, "1");
+        due("of little worth", y.plan(1, 47), 33);
+        lawOf(y, "0");
+        due("of no worth", y.plan(1, 47), 0);
     }
 
     private static void promise17() {
@@ -830,6 +892,17 @@ public final class PromiseTest {
         y.runaway(0);
         due("a half goes with the DAYS", y.of(0, 4), 0);
         due("neither is OPEN", y.hand(1), NOT);
+        OwedDays all = withPeople(1, 1, 1, 1, 1, 1, 1, 1);
+        for (int d = 0; d < 18; d++) {
+            all.debt(1, 100 + d % 13);
+        }
+        all.debt(67, 512);
+        all.debt(56, 512);
+        due("the last two", all.hand(1918), 1);
+        due("a: to whom", all.of(19, 1), 7);
+        due("b: none", all.of(18, 2), 0);
+        due("no debt 20", all.hand(2019), BAD);
+        due("no debt 20", all.hand(1920), BAD);
     }
 
     private static void promise22() {
@@ -906,6 +979,16 @@ public final class PromiseTest {
         due("others'", x.of(4, 0), 1);
         due("not OPEN: as it was", x.of(0, 0), 0);
         due("not OPEN: as it was", x.of(3, 1), 0);
+        OwedDays all = withPeople(1, 1, 1, 1, 1, 1, 1, 1);
+        all.debt(76, 112);
+        all.debt(57, 112);
+        all.debt(75, 112);
+        due("7's to 6", all.heir(76), 2);
+        due("between the two", all.of(0, 2), 0);
+        due("to whom", all.of(1, 1), 6);
+        due("who owes", all.of(2, 0), 6);
+        due("6's to 3", all.heir(63), 2);
+        due("who owes", all.of(2, 0), 3);
         due("asks stay", x.of(0, 40), 1);
         due("again", x.heir(1), 0);
     }
@@ -947,6 +1030,19 @@ public final class PromiseTest {
         due("the first that is not so", x.judge(0), 1);
         fill(x, 0, 1, 0);
         due("a three's end lacks", x.judge(0), 0);
+        fill(x, 0, 1, 0, 1, 5, 0, 1, 5);
+        due("as it is", x.judge(0), NOT);
+        fill(x, 0, 1, 0, 1, 5, 0, 1);
+        due("nothing is left of a longer ROW", x.judge(0), 1);
+        fill(x, 0, 1, 0, 1, 5, 0);
+        due("nothing is left of a longer ROW", x.judge(0), 1);
+        x.row(0, 1, 60);
+        for (int at = 0; at < 60; at++) {
+            x.put(0, at, at % 3 == 1 ? 1 : at % 3 == 2 ? 5 : 0);
+        }
+        due("twenty threes", x.judge(0), NOT);
+        x.put(0, 59, 4);
+        due("the twentieth", x.judge(0), 19);
     }
 
     private static void promise26() {
@@ -969,6 +1065,20 @@ public final class PromiseTest {
         due("pq -1", x.wet(0, -1), VOID);
         due("shelf 6", x.wet(6, 1), VOID);
         due("shelf -1", x.wet(-1, 1), VOID);
+        fill(x, 0, 1, 0, 1, 3, 0, 1, 4);
+        due("all is told", x.wet(0, 1), 2);
+        x.row(1, 1, 5);
+        x.shift(0, 0, 1, 0, 5);
+        due("a three's end that lacks tells nothing", x.wet(1, 1), 6);
+        x.row(0, 1, 5);
+        x.shift(1, 0, 0, 0, 5);
+        due("nothing is left of a longer ROW", x.wet(0, 1), 6);
+        OwedDays all = withPeople(1, 1, 1, 1, 1, 1, 1, 1);
+        all.debt(76, 912);
+        all.debt(67, 812);
+        fill(all, 0, 1, 7, 6, 2, 6, 7, 5, 7, 6, -1);
+        due("7's to 6", all.wet(0, 76), 7);
+        due("6's to 7", all.wet(0, 67), 3);
     }
 
     private static void promises27and28() {
@@ -1026,9 +1136,65 @@ public final class PromiseTest {
         y.mend(0, 3, 12);
         y.go(1, 3);
         due("LED anew", y.led(60, 0), NOT);
+        imageOfAll();
         due("laid back again", y.back(), 5);
         due("NOW", y.count(4), 5);
         due("the half and all", y.of(0, 4), 0);
+    }
+
+    // Whatever an image keeps is other when it is laid back; what came behind it leaves nothing.
+    private static void imageOfAll() {
+        OwedDays x = withPeople(3, 4, 5);
+        x.mend(0, 3, 0);
+        x.mend(0, 0, 9);
+        x.debt(1, 200);
+        x.debt(20, 301);
+        x.ask(0, 4);
+        x.ask(1, 6);
+        x.go(1, 5);
+        x.image();
+        x.mend(1, 0, 9);
+        x.debt(12, 500);
+        x.ask(2, 8);
+        x.ask(0, 8);
+        due("0's to 2", x.heir(2), 1);
+        due("worked", x.go(1, 4), 2);
+        x.runaway(1);
+        x.back();
+        int[][] kept = {{0, 0, 0}, {0, 1, 1}, {0, 2, 2}, {0, 3, 0}, {0, 4, 1}, {1, 0, 2}, {1, 1, 0}, {1, 2, 3}, {1, 3, 1}, {1, 4, 0},
+            {0, 40, 0}, {0, 41, 4}, {0, 42, 1}, {1, 40, 1}, {1, 41, 6}, {1, 42, 0}, {2, 0, VOID}, {2, 40, VOID},
+            {0, 13, 0}, {1, 13, 15}, {2, 13, 0}, {1, 11, 0}, {2, 12, 0}};
+        for (int[] k : kept) {
+            due("of(" + k[0] + ", " + k[1] + ")", x.of(k[0], k[1]), k[2]);
+        }
+        due("LED", x.led(40, 0), 1);
+        due("LED", x.led(40, 1), 0);
+        x.go(1, 5);
+        for (int dp = 50; dp < 93; dp++) {
+            int want = dp % 10 > 2 ? BAD : dp == 62 ? 1 : NOT;
+            due("nothing is left of led(" + dp + ")", x.led(dp, 1), want);
+            due("nothing is left of led(" + dp + ")", x.led(dp, 0), dp == 62 ? 0 : want);
+        }
+        x.back();
+        due("a new DEBT where one was", x.debt(21, 911), 2);
+        due("its NICK", x.of(2, 4), 0);
+        due("a new ASK where one was", x.ask(2, 13), 2);
+        due("not done", x.of(2, 42), 0);
+        due("WAITS", x.waits(), 2);
+        OwedDays y = withPeople(1, 1);
+        y.mend(0, 3, 0);
+        y.mend(0, 0, 9);
+        y.image();
+        y.debt(1, 900);
+        y.ask(0, 4);
+        y.go(1, 5);
+        due("a half", y.of(0, 4), 1);
+        y.back();
+        y.debt(1, 900);
+        due("no half", y.of(0, 4), 0);
+        y.ask(0, 4);
+        due("not done", y.of(0, 42), 0);
+        due("not LED", y.led(40, 0), BAD);
     }
 
     private static void promises29and30() {
@@ -1082,7 +1248,38 @@ public final class PromiseTest {
             due("one by one", y.redo(), k);
         }
         due("no more", y.redo(), STATE);
+        changesOfAll();
         due("the last", y.of(0, 20), 8);
+    }
+
+    // 44 changes of all that can be mended: back to the fourth, and to the last again.
+    private static void changesOfAll() {
+        OwedDays x = withPeople(1, 2, 3, 4);
+        int[][] settings = {{3, 20}, {7, 20}, {1, 10}, {3, 10}, {0, 50}, {0, 51}, {11, 20}, {2, 10}};
+        int[] what = {0, 0, 1, 1, 2, 3, 0, 1};
+        int[][] then = new int[45][8];
+        for (int k = 0; k <= 44; k++) {
+            for (int s = 0; s < 8; s++) {
+                then[k][s] = x.of(settings[s][0], settings[s][1]);
+            }
+            int number = settings[k % 8][0];
+            if (k < 44) {
+                x.mend(number, what[k % 8], what[k % 8] == 2 ? (then[k][4] + 1) % 3 : then[k][k % 8] % 9 + 1);
+            }
+        }
+        for (int k = 43; k >= 4; k--) {
+            x.undo();
+            for (int s = 0; s < 8; s++) {
+                due("undone to " + k, x.of(settings[s][0], settings[s][1]), then[k][s]);
+            }
+        }
+        due("no more", x.undo(), STATE);
+        for (int k = 5; k <= 44; k++) {
+            x.redo();
+            for (int s = 0; s < 8; s++) {
+                due("done again to " + k, x.of(settings[s][0], settings[s][1]), then[k][s]);
+            }
+        }
     }
 
     private static void promise31() {
@@ -1210,7 +1407,9 @@ public final class PromiseTest {
         due("none", x.row(5, 2, 0), 1);
         due("no place", x.put(5, 0, 1), -13);
         x.put(0, 3, 9);
+        x.put(0, 0, 9);
         due("anew", x.row(0, 0, 5), 1);
+        due("0 at first", x.element(0, 0), 0);
         due("0 at first", x.element(0, 3), 0);
         due("no more than five", x.element(0, 5), Long.MIN_VALUE);
     }
@@ -1334,6 +1533,35 @@ public final class PromiseTest {
         due("changes that may be UNDONE", x.count(6), 0);
     }
 
+    // With all that may be there, nothing is looked for behind its end.
+    private static void fullHouse() {
+        OwedDays x = withPeople(1, 2, 3, 4, 5, 6, 7, 8);
+        x.mend(0, 3, 0);
+        for (int d = 0; d < 20; d++) {
+            x.debt(10 * (d % 8) + (d + 1) % 8, 900 + (d % 3 == 0 ? 12 : 0));
+        }
+        for (int a = 0; a < 30; a++) {
+            x.ask(a % 20, 4 + a % 3);
+        }
+        for (int b = 0; b < 50; b++) {
+            x.body(b % 8);
+        }
+        due("OPEN ones", x.count(2), 20);
+        due("OWES", x.of(7, 11), 18);
+        due("is owed", x.of(0, 12), 18);
+        due("plan", x.plan(0, 47), 18 * 5 * 8);
+        due("ring", x.ring(), NOT);
+        due("wiped", x.wiped(), 1);
+        due("WAITS", x.waits(), 30);
+        due("has", x.has(7, 5), 0);
+        due("go", x.go(1, 7), 20);
+        due("done", x.waits(), 0);
+        due("heir", x.heir(70), 2);
+        due("between the two", x.of(7, 2), 0);
+        due("runaway", x.runaway(0), 24);
+        due("act", x.act(49, 0, 1), 53);
+    }
+
     private static void run(int number) {
         promise = number;
         switch (number) {
@@ -1372,7 +1600,7 @@ public final class PromiseTest {
             case 36: promises36and37(); break;
             case 38: promise38(); break;
             case 39: promise39(); break;
-            case 40: promise40(); break;
+            case 40: promise40(); fullHouse(); break;
             default: break;
         }
     }
