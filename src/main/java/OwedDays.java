@@ -17,7 +17,6 @@ public final class OwedDays {
     private final Diary diary = new Diary();
     private final Ledger keptLedger = new Ledger();
     private final Diary keptDiary = new Diary();
-    private final Rings rings = new Rings();
     private final Wiper wiper = new Wiper();
     private final Bodies bodies = new Bodies();
     private final Shelf[] shelves = new Shelf[SHELVES];
@@ -234,7 +233,7 @@ public final class OwedDays {
     }
 
     public int ring() {
-        int bits = rings.least(ledger);
+        int bits = Rings.least(ledger);
         return bits == 0 ? NOT : bits;
     }
 
@@ -259,7 +258,7 @@ public final class OwedDays {
     }
 
     public int strike() {
-        int bits = rings.least(ledger);
+        int bits = Rings.least(ledger);
         return bits == 0 ? NOT : ledger.strikeOut(bits);
     }
 
@@ -1191,39 +1190,40 @@ public final class OwedDays {
         }
     }
 
-    /** The search for the RING. */
+    /** The search for the RING: a set of DEBTS is told as bits, and none as 0. */
     private static final class Rings {
-        private int leastBits;
-
-        int least(Ledger ledger) {
-            leastBits = 0;
-            for (int size = 2; size <= MOST_IN_RING && leastBits == 0; size++) {
+        static int least(Ledger ledger) {
+            int least = 0;
+            for (int size = 2; size <= MOST_IN_RING && least == 0; size++) {
                 for (int first = 0; first < ledger.count; first++) {
                     if (ledger.isOpen(first)) {
-                        follow(ledger, first, first, 1 << first, 1 << ledger.owes[first], size - 1);
+                        least = lesser(least, follow(ledger, first, first, 1 << first, 1 << ledger.owes[first], size - 1));
                     }
                 }
             }
-            return leastBits;
+            return least;
         }
 
         // A ring is met once, from its lowest debt on; toCome, at most 4, keeps the depth low.
-        private void follow(Ledger ledger, int first, int last, int bits, int owing, int toCome) {
+        private static int follow(Ledger ledger, int first, int last, int bits, int owing, int toCome) {
             int person = ledger.whom[last];
             if (toCome <= 0) {
-                if (person == ledger.owes[first] && (leastBits == 0 || bits < leastBits)) {
-                    leastBits = bits;
-                }
-                return;
+                return person == ledger.owes[first] ? bits : 0;
             }
             if ((owing >> person & 1) != 0) {
-                return;
+                return 0;
             }
+            int least = 0;
             for (int next = first + 1; next < ledger.count; next++) {
                 if (ledger.owes[next] == person && ledger.kind[next] == ledger.kind[first] && ledger.isOpen(next)) {
-                    follow(ledger, first, next, bits | 1 << next, owing | 1 << person, toCome - 1);
+                    least = lesser(least, follow(ledger, first, next, bits | 1 << next, owing | 1 << person, toCome - 1));
                 }
             }
+            return least;
+        }
+
+        private static int lesser(int a, int b) {
+            return a == 0 || b == 0 ? a | b : Math.min(a, b);
         }
     }
 
