@@ -1,0 +1,103 @@
+import java.nio.charset.StandardCharsets;
+import java.nio.file.Files;
+import java.nio.file.Path;
+import java.util.Arrays;
+import java.util.Map;
+import java.util.TreeMap;
+
+/**
+ * Each sentence of DOC.md is told by its own words and asked of the class; then the words themselves
+ * are looked for in DOC.md, so that none is made up and none of the Terms and promises is left out.
+ */
+public final class SentencesTest {
+    private static final Map<Integer, String> WORDS = new TreeMap<>();
+    private static final Map<Integer, boolean[]> TOLD = new TreeMap<>();
+    private static int wrong = 0;
+
+    private static String plain(String text) {
+        return text.replaceAll("```text|```|={3,} \\d", " ").replaceAll("\\s+", " ");
+    }
+
+    private static void notSo(String what) {
+        wrong++;
+        System.out.println("not so: " + what);
+    }
+
+    private static void readDocument(String document) {
+        String[] parts = document.split("\n## ");
+        for (String part : parts) {
+            int lineEnd = part.indexOf('\n');
+            String head = part.substring(0, lineEnd);
+            String words = part.substring(lineEnd);
+            if (head.equals("Terms")) {
+                WORDS.put(Sentences.TERMS, plain(words.substring(0, words.indexOf("Ahead of the calls"))));
+            } else if (head.startsWith("Promise ")) {
+                WORDS.put(Integer.parseInt(head.substring(8, head.indexOf(':'))), plain(words.substring(words.indexOf("`:") + 2)));
+            }
+        }
+        for (Map.Entry<Integer, String> part : WORDS.entrySet()) {
+            TOLD.put(part.getKey(), new boolean[part.getValue().length()]);
+        }
+    }
+
+    private static void mark(int promise, String quote) {
+        String words = WORDS.get(promise);
+        int at = words == null ? -1 : words.indexOf(quote);
+        if (at < 0) {
+            notSo(Sentences.place(promise) + " does not say \"" + quote + "\"");
+        }
+        for (; at >= 0; at = words.indexOf(quote, at + 1)) {
+            Arrays.fill(TOLD.get(promise), at, at + quote.length(), true);
+        }
+    }
+
+    private static void lookForWhatIsLeftOut() {
+        for (Map.Entry<Integer, String> part : WORDS.entrySet()) {
+            StringBuilder left = new StringBuilder();
+            boolean[] told = TOLD.get(part.getKey());
+            for (int at = 0; at < told.length; at++) {
+                left.append(told[at] ? '\n' : part.getValue().charAt(at));
+            }
+            for (String words : left.toString().split("\n+")) {
+                String rest = words.trim();
+                if (!rest.isEmpty()) {
+                    notSo("no test tells of " + Sentences.place(part.getKey()) + ", \"" + rest + "\"");
+                }
+            }
+        }
+    }
+
+    private static void tellWhatWasRun() {
+        int answers = 0;
+        for (int i = 0; i < Sentences.quotes.size(); i++) {
+            System.out.println(Sentences.place(Sentences.promises.get(i)) + ": " + Sentences.looked.get(i) + " answers by \""
+                + Sentences.quotes.get(i) + "\"");
+            answers += Sentences.looked.get(i);
+            if (Sentences.looked.get(i) == 0) {
+                notSo("nothing is asked by \"" + Sentences.quotes.get(i) + "\"");
+            }
+        }
+        System.out.println(Sentences.quotes.size() + " sentences, " + answers + " answers, " + (wrong + Sentences.wrong) + " not so");
+    }
+
+    public static void main(String[] args) throws Exception {
+        SentencesOfPeople.all();
+        SentencesOfLaw.all();
+        SentencesOfDays.all();
+        SentencesOfThought.all();
+        SentencesOfDeeds.all();
+        SentencesOfBooks.all();
+        SentencesOfActs.all();
+        SentencesOfShelves.all();
+        Path document = Path.of(System.getProperty("owed.document", "../shared/DOC.md"));
+        readDocument(Files.readString(document, StandardCharsets.UTF_8));
+        for (int i = 0; i < Sentences.quotes.size(); i++) {
+            mark(Sentences.promises.get(i), Sentences.quotes.get(i));
+        }
+        lookForWhatIsLeftOut();
+        tellWhatWasRun();
+        if (wrong + Sentences.wrong != 0) {
+            System.exit(1);
+        }
+    }
+}
