@@ -725,7 +725,7 @@ public final class OwedDays {
         private final int[] code = new int[MOST_BYTES + 1];
         private final int[] draft = new int[MOST_BYTES + 1];
         private final int[] operators = new int[MOST_BYTES];
-        private final int[] values = new int[MOST_BYTES];
+        private final int[] values = new int[MOST_BYTES + 1];
         private final int[] names = new int[6];
         int taped;
         private int coded;
@@ -832,7 +832,7 @@ public final class OwedDays {
         }
 
         private boolean takeNextDigit(int digit) {
-            if (digitsToCome == 0) {
+            if (digitsToCome <= 0 || drafted <= 0) {
                 return false;
             }
             digitsToCome--;
@@ -874,14 +874,19 @@ public final class OwedDays {
             }
         }
 
+        // Each byte is pushed and emitted at most once, so there is room for all; it is looked at all the same.
         private void push(int operator) {
-            operators[pending] = operator;
-            pending++;
+            if (pending < operators.length) {
+                operators[pending] = operator;
+                pending++;
+            }
         }
 
         private void emit(int itsCode) {
-            draft[drafted] = itsCode;
-            drafted++;
+            if (drafted < draft.length) {
+                draft[drafted] = itsCode;
+                drafted++;
+            }
         }
 
         private static boolean isDigit(int letter) {
@@ -912,7 +917,7 @@ public final class OwedDays {
             }
         }
 
-        // The code is that of a TEXT without FAULT, so what an operator takes has been laid down ahead of it.
+        // The code is that of a TEXT without FAULT, so what a step takes is there; it is looked at all the same.
         int value(int day, int light, int skill, int p, int q) {
             names[0] = day;
             names[1] = day / 4;
@@ -926,12 +931,11 @@ public final class OwedDays {
                 int step = code[at];
                 if (lineIsPassed) {
                     lineIsPassed = step != LINE_ENDS;
-                } else if (step < NAME) {
-                    values[top] = step;
-                    top++;
                 } else if (step < OPERATOR) {
-                    values[top] = names[step - NAME];
+                    values[top] = step < NAME ? step : names[step - NAME];
                     top++;
+                } else if (top < operandsOf(rankOf(step - OPERATOR))) {
+                    return 0;
                 } else if (step == LINE_ENDS) {
                     return values[top - 1];
                 } else if (step == ONLY_IF) {
@@ -945,6 +949,11 @@ public final class OwedDays {
                 }
             }
             return 0;
+        }
+
+        // A line's end and a condition's end have rank 0: each takes one, as a sign does.
+        private static int operandsOf(int rank) {
+            return rank == 0 || rank == RANK_OF_SIGN ? 1 : 2;
         }
 
         private static int ofOne(int operator, int a) {

@@ -29,6 +29,7 @@ abstract class Sentences {
 
     private static List<Call> made = new ArrayList<>();
     private static OwedDays x = new OwedDays();
+    private static int asked = 0;
     private static List<long[]> asItIs = null;
 
     /** A call: its method, what it is told, and its words. */
@@ -148,6 +149,7 @@ abstract class Sentences {
     static void on(String words) {
         made = new ArrayList<>();
         x = new OwedDays();
+        asked = 0;
         asItIs = null;
         also(words);
     }
@@ -181,16 +183,34 @@ abstract class Sentences {
     /** A call, the answer that is due, and nothing that can be asked has changed by it. */
     static void same(String words, long want) {
         Call call = call(words);
-        OwedDays asked = copy();
-        look(words, call.on(asked), want);
+        asked++;
+        if (made.size() + asked > MOST_CALLS) {
+            x = copy();
+            asked = 1;
+        }
+        look(words, call.on(x), want);
         if (asItIs == null) {
             asItIs = allThatCanBeAsked(null);
         }
-        List<long[]> then = allThatCanBeAsked(call);
+        compare(words + " and then ", allThatCanBeAsked(call), asItIs);
+    }
+
+    /** All that can be asked of the object is answered as by a new one with these calls behind it. */
+    static void isLike(String words) {
+        List<long[]> is = allThatCanBeAsked(null);
+        List<Call> kept = made;
+        made = callsOf(words);
+        List<long[]> like = allThatCanBeAsked(null);
+        made = kept;
+        look("all that can be asked", 0, 0);
+        compare("", is, like);
+    }
+
+    private static void compare(String ahead, List<long[]> is, List<long[]> due) {
         for (int i = 0; i < LOOKS.size(); i++) {
-            int at = Arrays.mismatch(asItIs.get(i), then.get(i));
+            int at = Arrays.mismatch(is.get(i), due.get(i));
             if (at >= 0) {
-                look(words + " and then " + LOOKS.get(i)[at].words(), then.get(i)[at], asItIs.get(i)[at]);
+                look(ahead + LOOKS.get(i)[at].words(), is.get(i)[at], due.get(i)[at]);
                 return;
             }
         }

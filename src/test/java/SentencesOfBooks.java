@@ -48,6 +48,10 @@ final class SentencesOfBooks extends Sentences {
         book("0 1 5 0 1", 1);
         book("0 1 5 0 1 4 0", 1);
         book("", NOT);
+        on(THREE + ", fill 0 1 0 1 5 0 1 5, fill 0 1 0 1 5 0 1");
+        same("judge 0", 1);
+        on(THREE + ", fill 0 1 0 1 5 1 0 0, fill 0 1 0 1 5 1");
+        same("judge 0", 1);
 
         sentence(25, "JUDGED.");
         StringBuilder twenty = new StringBuilder("row 5 1 60");
@@ -106,6 +110,10 @@ final class SentencesOfBooks extends Sentences {
         same("wet 0 1", 5 + 2 - 32767);
         on(THREE + ", row 0 1 0");
         same("wet 0 1", 5);
+        on(THREE + ", fill 0 1 0 1 3 0 1 1, fill 0 1 0 1 3 0 1");
+        same("wet 0 1", 2);
+        on(THREE + ", fill 0 1 0 1 3 0 1 1, fill 0 1 0 1 3 0");
+        same("wet 0 1", 2);
 
         sentence(26, "WET of a pair (pq unlike).");
         on(THREE + ", row 5 1 60, put 5 58 1, put 5 59 3");
@@ -169,6 +177,8 @@ final class SentencesOfBooks extends Sentences {
         same("of 0 42", 0);
         same("of 1 13", 0);
 
+        imageOfAll();
+
         sentence(27, "AN IMAGE is kept: NOW.");
         due("image", 0);
         also("go 1 7");
@@ -196,6 +206,31 @@ final class SentencesOfBooks extends Sentences {
         refused("back", STATE);
         on(TWO + ", debt 1 112, go 1 3");
         refused("back", STATE);
+    }
+
+    // With all DEBTS and ASKS that may be there, and the last DAYS too.
+    private static void imageOfAll() {
+        StringBuilder full = new StringBuilder("8* person 2, mend 0 3 0, mend 11 0 3");
+        for (int d = 0; d < 20; d++) {
+            full.append(", debt " + (d % 8) + (d + 1) % 8 + " 90" + d % 10);
+        }
+        full.append(", go 1 30");
+        for (int a = 0; a < 30; a++) {
+            full.append(", ask " + (a < 15 ? a + " 34" : (34 - a) + " 46"));
+        }
+        String first = full + ", go 1 6, image";
+        on(first + ", go 1 11, heir 42, heir 10, heir 75, runaway 6, back");
+        isLike(first);
+        on(first + ", runaway 3, runaway 0, back");
+        isLike(first);
+        String last = full + ", go 1 17, image";
+        on(last + ", heir 10, heir 32, heir 75, runaway 6, go 1 1, back");
+        isLike(last);
+        on(first + ", go 1 11, back, mend 0 3 12, go 1 12, mend 0 3 0");
+        isLike(first + ", mend 0 3 12, go 1 12, mend 0 3 0");
+        on("4* person 1, debt 1 112, debt 12 112, image, hand 1, back");
+        same("of 0 1", 1);
+        same("of 1 2", 1);
     }
 
     private static void changes() {

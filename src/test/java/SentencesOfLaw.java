@@ -80,6 +80,12 @@ final class SentencesOfLaw extends Sentences {
         faultAt(0, "|d", "&d", "<d", "=d", ">d", "+d", "*d", "/d", "%d", ")", ")d");
         value("1|0&0", 1);
         value("(1|0)&0", 0);
+        value("(1|0)+5", 6);
+        value("(0|0)+5", 5);
+        value("(0|1)*7", 7);
+        value("(1&1)+5", 6);
+        value("(2<3)+5", 6);
+        value("(2+3)*5", 25);
         value("5&6=6", 1);
         value("6=6&0", 0);
         value("1<2&3>2", 1);
@@ -159,6 +165,8 @@ final class SentencesOfLaw extends Sentences {
         isText("!d+!d+!d+!d+!d+!d+!d+!d", "(d)*(d)*(d)*(d)*(d)*(d)*(d)", "(d);(d);(d);(d);(d);(d);(d)", "!d?!d;!d?!d;!d?!d;!d?!d",
             "----(-d)----(-d)", "(-----d+-----d)--d", "((((((d)))))|(d))", "d-------m", "(!d&!d|!d<!d)*(((((1)))))");
         faultAt(8, "d--------m");
+        faultAt(10, "d*d+-------d", "d*d&-------d", "d*d;-------d");
+        faultAt(12, "(d*d)-(((((((d", "(d|d)+!!!!!!!d");
         faultAt(13, "(-----d+------d)");
         faultAt(18, "((((((d)))))|((((((d");
         text("((((((", -106);
@@ -222,6 +230,14 @@ final class SentencesOfLaw extends Sentences {
         value("0?7;8", 8);
         value("1?7;8", 7);
         value("-1?7;8", 7);
+        value("0|1?7;8", 7);
+        value("0|0?7;8", 8);
+        value("1&0?7;8", 8);
+        value("2=2?7;8", 7);
+        value("1|0;8", 1);
+        value("1+1;8", 2);
+        value("0?1+1;8", 8);
+        value("1?2|0;8", 1);
         value("0?7;0?8;9", 9);
         value("0?7;1?8;9", 8);
         value("0?7;d=22?8;9", 8);
@@ -231,6 +247,13 @@ final class SentencesOfLaw extends Sentences {
         value("0?7", 0);
         value("0?7;0?8", 0);
         value("0?7;d<22?8;m>5?9", 0);
+        String[] longer = {"0?!7", "1?2;3;4", "0?1+2*3;5", "9;8"};
+        for (String law : longer) {
+            on(TWO + ", text " + law + ", text 0?7");
+            same("worth 1 22", 0);
+            on(TWO + ", text " + law + ", text 6");
+            same("worth 1 22", 6);
+        }
     }
 
     private static void faults() {

@@ -125,6 +125,22 @@ final class SentencesOfPeople extends Sentences {
         also("runaway 0");
         same("of 1 30", 0);
         refused("of 11 30", VOID);
+        String all = "8* person 1";
+        for (int d = 0; d < 20; d++) {
+            all += ", debt " + (7 - d % 8) + (d % 8 < 4 ? d % 3 : 5 + d % 3) + " " + (100 * (d % 9 + 1) + d % 13);
+        }
+        on(all);
+        int[][] owed = new int[8][8];
+        for (int d = 0; d < 20; d++) {
+            if (7 - d % 8 != (d % 8 < 4 ? d % 3 : 5 + d % 3)) {
+                owed[7 - d % 8][d % 8 < 4 ? d % 3 : 5 + d % 3] += d % 9 + 1;
+            }
+        }
+        for (int p = 0; p < 8; p++) {
+            for (int q = 0; q < 8; q++) {
+                same("of " + p + q + " 30", p == q ? VOID : owed[p][q]);
+            }
+        }
     }
 
     private static void termsOfWork() {
@@ -137,6 +153,11 @@ final class SentencesOfPeople extends Sentences {
         }
         on(TWO + ", mend 0 3 0, mend 1 0 1, debt 1 212, ask 0 4, go 1 5");
         same("of 0 2", 1);
+        for (int day = 4; day < 12; day++) {
+            on(TWO + ", mend 0 3 0, mend 1 0 4, mend 2 0 6, debt 1 200, debt 1 203, ask 0 " + day + ", go 1 " + (day + 1));
+            same("of 0 2", day < 8 || day == 11 ? 2 : 1);
+            same("of 0 4", day < 7 ? 1 : 0);
+        }
         on(TWO + ", mend 0 3 0, mend 1 0 1, debt 1 201, ask 0 4, go 1 5");
         same("of 0 2", 1);
 

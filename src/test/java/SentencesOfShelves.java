@@ -226,8 +226,9 @@ final class SentencesOfShelves extends Sentences {
             due("row 5 " + sort + " 0", 1);
             refused("put 5 0 1", NOWHERE);
         }
-        also("put 0 3 1, put 0 4 1");
+        also("put 0 0 1, put 0 3 1, put 0 4 1");
         due("row 0 1 4", 1);
+        same("element 0 0", 0);
         same("element 0 3", 0);
         refused("element 0 4", REFUSED);
         due("row 0 1 5", 1);

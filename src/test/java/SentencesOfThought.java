@@ -35,6 +35,12 @@ final class SentencesOfThought extends Sentences {
         also("text 200-d");
         same("bestDay 0 0", 4);
         same("bestDay 0 1", 99);
+        also("text 79+d");
+        same("bestDay 0 0", 20);
+        same("bestDay 0 1", 99);
+        also("text d-60");
+        same("bestDay 0 0", 4);
+        same("bestDay 0 1", 0);
         on(TWO + ", debt 1 112, debt 10 112, text p*d+q*(99-d)");
         same("bestDay 0 0", 4);
         same("bestDay 0 1", 95);
@@ -107,6 +113,11 @@ final class SentencesOfThought extends Sentences {
         same("plan 1 6", 16);
         same("plan 1 7", 16);
         same("plan 1 8", 18);
+        on(TWO + ", debt 1 312, text d");
+        due("plan 1 47", 46 + 45 + 44);
+        due("plan 1 6", 15);
+        due("plan 1 4", 4);
+        due("plan 1 47", 46 + 45 + 44);
 
         sentence(16, "PLAN till DAY t.");
         on("8* person 9, mend 11 0 9");
@@ -240,6 +251,15 @@ final class SentencesOfThought extends Sentences {
         same("wiped", 4);
         on("person 1, person 1, 20* debt 1 912");
         same("wiped", 1);
+        on("4* person 1, debt 1 112");
+        due("wiped", 1);
+        due("debt 23 112", 1);
+        due("wiped", 2);
+        due("debt 10 112", 2);
+        due("wiped", 1);
+        due("wiped", 1);
+        due("debt 32 112", 3);
+        due("wiped", 0);
 
         sentence(19, "WIPED.");
         same("wiped", 0);
