@@ -29,7 +29,7 @@ public final class OwedDays {
         }
     }
 
-    // ---- people, debts
+    // ---- people, debts (pq: 10 times the one and the other)
 
     public int person(int skill) {
         if (!within(skill, 1, 9)) {

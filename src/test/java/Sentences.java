@@ -13,7 +13,7 @@ import java.util.Map;
  */
 abstract class Sentences {
     static final String TWO = "person 3, person 9";
-    static final int TERMS = 0;
+    static final int TERMS = 0, WHAT_IT_IS = -1, FACE = -2, AHEAD = -3, NOT_PROMISED = -4;
     static final int BAD = -1, NOT = -2, FULL = -3, STATE = -5, VOID = -2000000000;
     static final int NOTHING = -11, OTHER = -12, NOWHERE = -13, BELOW = -14;
     static final long REFUSED = Long.MIN_VALUE;
@@ -24,7 +24,7 @@ abstract class Sentences {
     static int wrong = 0;
 
     private static final int MOST_CALLS = 512;
-    private static final Map<String, Method> FACE = face();
+    private static final Map<String, Method> METHODS = face();
     private static final List<Call[]> LOOKS = looks();
 
     private static List<Call> made = new ArrayList<>();
@@ -65,7 +65,7 @@ abstract class Sentences {
 
     private static Call call(String words) {
         String[] parts = words.trim().split(" ");
-        Method method = FACE.get(parts[0]);
+        Method method = METHODS.get(parts[0]);
         Class<?>[] types = method.getParameterTypes();
         if (types.length != parts.length - 1) {
             throw new IllegalStateException(words);
@@ -134,7 +134,19 @@ abstract class Sentences {
     }
 
     static String place(int promise) {
-        return promise == TERMS ? "Terms" : "Promise " + promise;
+        switch (promise) {
+            case WHAT_IT_IS: return "What it is";
+            case FACE: return "The public face";
+            case TERMS: return "Terms";
+            case AHEAD: return "Terms, at their end";
+            case NOT_PROMISED: return "Not promised";
+            default: return "Promise " + promise;
+        }
+    }
+
+    /** What is looked at beside the answers of calls. */
+    static void is(String what, long is, long due) {
+        look(what, is, due);
     }
 
     private static String madeInWords() {

@@ -7,7 +7,7 @@ import java.util.TreeMap;
 
 /**
  * Each sentence of DOC.md is told by its own words and asked of the class; then the words themselves
- * are looked for in DOC.md, so that none is made up and none of the Terms and promises is left out.
+ * are looked for in DOC.md, so that none is made up and none is left out, from its first line to its last.
  */
 public final class SentencesTest {
     private static final Map<Integer, String> WORDS = new TreeMap<>();
@@ -15,12 +15,25 @@ public final class SentencesTest {
     private static int wrong = 0;
 
     private static String plain(String text) {
-        return text.replaceAll("```text|```|={3,} \\d", " ").replaceAll("\\s+", " ");
+        return text.replaceAll("```text|```java|```|={3,} \\d", " ").replaceAll("\\s+", " ");
     }
 
     private static void notSo(String what) {
         wrong++;
         System.out.println("not so: " + what);
+    }
+
+    // A promise's head names its call as the face does: "Promise 2: person", `int person(int skill)`.
+    private static void readPromise(String head, String words) {
+        String name = head.endsWith(": A new object") ? "OwedDays" : head.substring(head.indexOf(": ") + 2);
+        String call = words.substring(words.indexOf('`') + 1, words.indexOf("`:"));
+        if (!(" " + call).contains(" " + name + "(")) {
+            notSo(head + " promises " + call);
+        }
+        if (!WORDS.get(Sentences.FACE).contains("public " + call + ";")) {
+            notSo("the face has no " + call);
+        }
+        WORDS.put(Integer.parseInt(head.substring(8, head.indexOf(':'))), plain(words.substring(words.indexOf("`:") + 2)));
     }
 
     private static void readDocument(String document) {
@@ -29,10 +42,20 @@ public final class SentencesTest {
             int lineEnd = part.indexOf('\n');
             String head = part.substring(0, lineEnd);
             String words = part.substring(lineEnd);
-            if (head.equals("Terms")) {
-                WORDS.put(Sentences.TERMS, plain(words.substring(0, words.indexOf("Ahead of the calls"))));
+            if (head.equals("What it is")) {
+                WORDS.put(Sentences.WHAT_IT_IS, plain(words));
+            } else if (head.equals("The public face")) {
+                WORDS.put(Sentences.FACE, plain(words));
+            } else if (head.equals("Terms")) {
+                int ahead = words.indexOf("Ahead of the calls");
+                WORDS.put(Sentences.TERMS, plain(words.substring(0, ahead)));
+                WORDS.put(Sentences.AHEAD, plain(words.substring(ahead)));
+            } else if (head.equals("Not promised")) {
+                WORDS.put(Sentences.NOT_PROMISED, plain(words));
             } else if (head.startsWith("Promise ")) {
-                WORDS.put(Integer.parseInt(head.substring(8, head.indexOf(':'))), plain(words.substring(words.indexOf("`:") + 2)));
+                readPromise(head, words);
+            } else if (!head.equals("# OwedDays") && !part.trim().equals("# OwedDays")) {
+                notSo("no test tells of the heading \"" + head + "\"");
             }
         }
         for (Map.Entry<Integer, String> part : WORDS.entrySet()) {
@@ -86,6 +109,7 @@ public final class SentencesTest {
     }
 
     public static void main(String[] args) throws Exception {
+        SentencesOfWhole.all();
         SentencesOfPeople.all();
         SentencesOfLaw.all();
         SentencesOfDays.all();

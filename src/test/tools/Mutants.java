@@ -32,8 +32,8 @@ import javax.tools.ToolProvider;
  * are run on it. Told: each change that no test notices. Not run by .ci/run, as it takes some minutes.
  */
 public final class Mutants {
-    private static final String[] GROUPS = {"SentencesOfPeople", "SentencesOfLaw", "SentencesOfDays", "SentencesOfThought",
-        "SentencesOfDeeds", "SentencesOfBooks", "SentencesOfActs", "SentencesOfShelves"};
+    private static final String[] GROUPS = {"SentencesOfWhole", "SentencesOfPeople", "SentencesOfLaw", "SentencesOfDays",
+        "SentencesOfThought", "SentencesOfDeeds", "SentencesOfBooks", "SentencesOfActs", "SentencesOfShelves"};
     private static final Pattern TOKEN = Pattern.compile("'.'|(?<![\\w.])\\d+(?![\\w.])|<=|>=|==|!=|&&|\\|\\||\\+\\+|--|\\+=|-=|>>>|>>|<<"
         + "|[<>+\\-*/%!^|&]|\\b(true|false|MOST_\\w+|DAYS|MONTHS|NOTICE|ANY_KIND|SHELVES|KINDS|ACTS)\\b"
         + "|\\b(BAD|NOT|FULL|STATE|VOID|NOTHING_THERE|OTHER_KIND|NO_PLACE|SIZE_BELOW_0)\\b");
